@@ -69,7 +69,18 @@ public final class ComesUpAsAQuestion {
     }
 
     public int well() {
-        int answer = tell();
+        int answer = letters.statements();
+        int wrongLetter = letters.wrongLetter();
+        // Tried beside first: with a fault in a late statement the early ones must not have come.
+        told.becomes(now);
+        int wrongStatement = wrongLetter == NO_PLACE ? letters.wrongStatement(told) : NO_PLACE;
+        if (wrongLetter != NO_PLACE) {
+            answer = FAULT_OF_LETTERS - wrongLetter;
+        } else if (wrongStatement != NO_PLACE) {
+            answer = FAULT_OF_STATEMENTS - wrongStatement;
+        } else {
+            now.becomes(told);
+        }
         letters.size = 0;
         return answer;
     }
@@ -452,21 +463,6 @@ public final class ComesUpAsAQuestion {
         return refusals[what - FIRST_REFUSAL_COUNT + 1];
     }
 
-    private int tell() {
-        int place = letters.wrongLetter();
-        if (place != NO_PLACE) {
-            return FAULT_OF_LETTERS - place;
-        }
-        // Tried beside first: with a fault in a late statement the early ones must not have come.
-        told.becomes(now);
-        place = letters.wrongStatement(told);
-        if (place != NO_PLACE) {
-            return FAULT_OF_STATEMENTS - place;
-        }
-        now.becomes(told);
-        return letters.statements();
-    }
-
     private int refuse(int number) {
         int place = -number;
         if (place > 0 && place < refusals.length) {
@@ -505,16 +501,6 @@ public final class ComesUpAsAQuestion {
             case PENNY: return 2 * (ofStone + 1);
             case HAT:
             case BISHOP: return ofStone + dryness;
-            default: return ofStone;
-        }
-    }
-
-    private static int topicBy(int kind, int weight) {
-        int ofStone = weight % MOST_TOPICS;
-        switch (kind) {
-            case CAT:
-            case HAT: return MOST_TOPICS - 1 - ofStone;
-            case BISHOP: return 0;
             default: return ofStone;
         }
     }
@@ -654,7 +640,7 @@ public final class ComesUpAsAQuestion {
 
         private void answerLeastOf(int p) {
             for (int i = 0; i < things; i++) {
-                if (dropper[i] == p && asks(i) && isKnown(p, topicOf(i))) {
+                if (dropper[i] == p && asks(i) && (knows[p] >> topicOf(i) & 1) == 1) {
                     answerOnce(i);
                     return;
                 }
@@ -664,7 +650,7 @@ public final class ComesUpAsAQuestion {
         void answerOnce(int i) {
             int by = dropper[i];
             left[i]--;
-            if (isPerson(by) && answered[by] < MOST_ANSWERED) {
+            if (by >= 0 && by < people && answered[by] < MOST_ANSWERED) {
                 answered[by]++;
             }
         }
@@ -682,7 +668,13 @@ public final class ComesUpAsAQuestion {
         }
 
         int topicOf(int i) {
-            return topicBy(kind[i], weight[i]);
+            int ofStone = weight[i] % MOST_TOPICS;
+            switch (kind[i]) {
+                case CAT:
+                case HAT: return MOST_TOPICS - 1 - ofStone;
+                case BISHOP: return 0;
+                default: return ofStone;
+            }
         }
 
         boolean asks(int i) {

@@ -12,6 +12,7 @@ public final class AdviceTest {
         c.due("teach, one lesson is not enough", Check.told("p0000;p0000;ts00;ts11;").teach(9), -9);
         c.due("teach, too shy for it", Check.told("p9000;ts00;").teach(9), -9);
         c.due("teach, not too shy for it", Check.told("p9000;ts00;").teach(10), 0);
+        c.due("teach, all else stays known", Check.told("p0001;ts00;ts30;").teach(3), 3);
         c.due("teach(0)", x.teach(0), -4);
         c.due("teach(41)", x.teach(41), -6);
     }
@@ -134,6 +135,8 @@ public final class AdviceTest {
         c.due("two, 2 DAYS are less than 3", x.two(0, 1, 2), 10);
         c.due("two, 3 are not more", x.two(0, 1, 3), 0);
         c.due("two, 4 are more", x.two(0, 1, 4), 0);
+        c.due("two, the other: 2 are less than 3", x.two(1, 0, 2), 1);
+        c.due("two, the other: 3 are not more", x.two(1, 0, 3), 0);
         c.due("KNOWS stays", x.person(0, 0), 1);
         c.due("two(0, 0, 0)", x.two(0, 0, 0), -1);
         c.due("two(0, 2, 0)", x.two(0, 2, 0), -1);

@@ -53,6 +53,7 @@ public final class OutlookTest {
     }
 
     private static void inTheWay() {
+        c.due("BLOCKS, for ever before 99", Check.told("p9255;p0000;tb00;tb00;tc00;ts01;d01;").first(3), 3);
         c.due("BLOCKS, for ever before long, the least", Check.told("p0255;p0000;ts00;ts00;tb01;ts01;d01;").first(3), 2);
         c.due("BLOCKS, the last", Check.told("p0255;ts00;ts00;ts00;d01;").first(3), 2);
         c.due("BLOCKS, of two the least", Check.told("p0255;p0255;tc00;tc01;d01;").first(3), 0);

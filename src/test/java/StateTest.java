@@ -107,6 +107,31 @@ public final class StateTest {
         c.due("what ASKS", x.count(3), 2);
     }
 
+    /** 27 rounds of 9 BISHOPS are 972 answers; of one round more the 28th is not counted: 999 are the most. */
+    private static void mostAnswered() {
+        ComesUpAsAQuestion x = Check.told("p0255;tb00;tb00;tb00;tb00;tb00;tb00;tb00;tb00;tb00;d36;");
+        for (int round = 2; round <= 27; round++) {
+            for (int i = 0; i < 9; i++) {
+                x.drops(i);
+            }
+            x.days(36);
+        }
+        c.due("DAY", x.count(2), 972);
+        c.due("ANSWERED", x.person(0, 2), 972);
+        for (int i = 0; i < 9; i++) {
+            x.drops(i);
+        }
+        x.days(26);
+        c.due("ANSWERED", x.person(0, 2), 998);
+        c.due("answers(8)", x.answers(8), 3);
+        c.due("ANSWERED", x.person(0, 2), 999);
+        c.due("answers(8)", x.answers(8), 2);
+        c.due("ANSWERED at most", x.person(0, 2), 999);
+        x.days(1);
+        c.due("ANSWERED at most, by days", x.person(0, 2), 999);
+        c.due("LEFT goes on", x.count(4), 7);
+    }
+
     private static void days() {
         ComesUpAsAQuestion x = Check.told("p0003;p1255;ts10;ts00;ts01;tc71;");
         c.due("days(0)", x.days(0), -4);
@@ -205,6 +230,7 @@ public final class StateTest {
         person();
         changes();
         answers();
+        mostAnswered();
         days();
         image();
         count();
