@@ -424,7 +424,7 @@ public final class ComesUpAsAQuestion {
         if (now.people == 0) {
             return refuse(STATE);
         }
-        chances.throwLots(now, n, z);
+        chances.drawLots(now, n, z);
         return what == 0 ? chances.lotWater : chances.lotAnswered;
     }
 
@@ -1151,26 +1151,38 @@ public final class ComesUpAsAQuestion {
     /** What hangs on odds and draws. */
     private static final class Chances {
         private final Well then = new Well();
+        private final Well[] steps = new Well[MOST_COLD_DAYS + 1];
         private int seed = 0;
         int lotWater = 0;
         int lotAnswered = 0;
 
-        /** Of the t to the n equally likely ways in which n days may go, how many end with water. */
-        long waysToWater(Well now, int n, int t) {
-            long ways = 0;
-            for (int coldDays = 0; coldDays < 1 << n; coldDays++) {
-                then.becomes(now);
-                for (int d = 0; d < n; d++) {
-                    then.passDay((coldDays >> d & 1) == 0);
-                }
-                if (then.hasWater()) {
-                    ways += power(t - 1, n - Integer.bitCount(coldDays));
-                }
+        Chances() {
+            for (int i = 0; i < steps.length; i++) {
+                steps[i] = new Well();
             }
-            return ways;
         }
 
-        void throwLots(Well now, int n, int z) {
+        /** Of the t to the n equally likely ways in which n days may go, how many end with water. */
+        long waysToWater(Well now, int n, int t) {
+            steps[0].becomes(now);
+            return waysFrom(0, n, t);
+        }
+
+        // Ways that begin alike share their first days: that is why each day has a well of its own.
+        private long waysFrom(int day, int n, int t) {
+            if (day >= n || day >= MOST_COLD_DAYS) {
+                return steps[day].hasWater() ? 1 : 0;
+            }
+            Well next = steps[day + 1];
+            next.becomes(steps[day]);
+            next.passDay(false);
+            long ways = waysFrom(day + 1, n, t);
+            next.becomes(steps[day]);
+            next.passDay(true);
+            return ways + (t - 1) * waysFrom(day + 1, n, t);
+        }
+
+        void drawLots(Well now, int n, int z) {
             seed = z;
             lotWater = 0;
             lotAnswered = 0;
