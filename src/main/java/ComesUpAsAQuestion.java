@@ -19,6 +19,7 @@ public final class ComesUpAsAQuestion {
     private static final int GREATEST_IN_ROW = 99;
     private static final int MOST_LOTS = 20;
     private static final int DAYS_OF_A_LOT = 15;
+    private static final int WITHOUT_SIGN = 0x7fffffff;
 
     private static final int STONE = 0;
     private static final int RING = 1;
@@ -1165,21 +1166,21 @@ public final class ComesUpAsAQuestion {
         /** Of the t to the n equally likely ways in which n days may go, how many end with water. */
         long waysToWater(Well now, int n, int t) {
             steps[0].becomes(now);
-            return waysFrom(0, n, t);
+            return waysFrom(steps, 0, n, t);
         }
 
         // Ways that begin alike share their first days: that is why each day has a well of its own.
-        private long waysFrom(int day, int n, int t) {
+        private static long waysFrom(Well[] steps, int day, int n, int t) {
             if (day >= n || day >= MOST_COLD_DAYS) {
                 return steps[day].hasWater() ? 1 : 0;
             }
             Well next = steps[day + 1];
             next.becomes(steps[day]);
             next.passDay(false);
-            long ways = waysFrom(day + 1, n, t);
+            long ways = waysFrom(steps, day + 1, n, t);
             next.becomes(steps[day]);
             next.passDay(true);
-            return ways + (t - 1) * waysFrom(day + 1, n, t);
+            return ways + (t - 1) * waysFrom(steps, day + 1, n, t);
         }
 
         void drawLots(Well now, int n, int z) {
@@ -1200,7 +1201,7 @@ public final class ComesUpAsAQuestion {
 
         private int draw(int m) {
             seed = seed * 1664525 + 1013904223;
-            return m > 0 ? (seed & Integer.MAX_VALUE) / 256 % m : 0;
+            return m > 0 ? (seed & WITHOUT_SIGN) / 256 % m : 0;
         }
     }
 

@@ -28,6 +28,28 @@ public final class LanguageTest {
         }
     }
 
+    /** Rule 4: of the library only functions that it lists; a constant of Integer is none of them. */
+    private static void library(String code) {
+        Matcher m = Pattern.compile("\\b([A-Z][a-z]\\w*)\\.(\\w+)(\\(?)").matcher(code);
+        while (m.find()) {
+            boolean listed = m.group(3).equals("(") && (m.group(1).matches("Integer|Long|Math")
+                || m.group(1).equals("Arrays") && m.group(2).matches("copyOf|copyOfRange|fill")
+                || m.group(1).equals("System") && m.group(2).equals("arraycopy"));
+            c.due("not in the list of the library: " + m.group(), listed ? 1 : 0, 1);
+        }
+    }
+
+    /** Rule 8: a method that calls itself is private and static. */
+    private static void recursion(String code) {
+        Matcher m = Pattern.compile("(?m)^( +)([a-zA-Z\\[\\] ]*?)(\\w+)\\([^;=()\\n]*\\) \\{$").matcher(code);
+        while (m.find()) {
+            int end = code.indexOf("\n" + m.group(1) + "}", m.end());
+            boolean again = Pattern.compile("(?<!new )\\b" + m.group(3) + "\\(").matcher(code.substring(m.end(), end)).find();
+            boolean fine = !again || m.group(2).contains("private static ");
+            c.due("calls itself: " + m.group().strip(), fine ? 1 : 0, 1);
+        }
+    }
+
     private static void shape(Class<?> one) {
         List<Field> own = new ArrayList<>();
         for (Field f : one.getDeclaredFields()) {
@@ -65,6 +87,8 @@ public final class LanguageTest {
         none(code, "\\bSystem\\.(?!arraycopy)");
         none(text, "[^\\x00-\\x7f]");
         methodsAreShort(code);
+        library(code);
+        recursion(code);
         names();
         shape(ComesUpAsAQuestion.class);
         c.due("classes", ComesUpAsAQuestion.class.getDeclaredClasses().length > 11 ? 1 : 0, 0);
